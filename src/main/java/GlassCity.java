@@ -824,6 +824,7 @@ public final class GlassCity {
         private static final int SHOW = 1;
         private static final int FINE = 2;
         private static final int FACTS = 7;
+        private static final int LIGHT = 4;
         /** Below FACT a code is a number itself; from FACT on one of the facts. */
         private static final int FACT = 1000;
         private static final int ADD = 2000;
@@ -840,7 +841,7 @@ public final class GlassCity {
         private final int[] codes = new int[MOST_BYTES];
         private int used = 0;
         private final int[] facts = new int[FACTS];
-        /** Two conditions stand open at each depth, and three sums at the deepest one. */
+        /** An or and an and stand open at each of seven depths, and three sums at the deepest one. */
         private final int[] stack = new int[2 * MOST_DEEP + 8];
 
         void become(Law other) {
@@ -859,7 +860,7 @@ public final class GlassCity {
                     return kinds[line] == SHOW;
                 }
             }
-            return facts[4] > 20;
+            return facts[LIGHT] > 20;
         }
 
         int fineFor(City city, int pane, int hour) {
@@ -880,7 +881,7 @@ public final class GlassCity {
             facts[1] = city.sand[pane];
             facts[2] = city.cracks[pane];
             facts[3] = hour;
-            facts[4] = city.lightBelow(pane, hour);
+            facts[LIGHT] = city.lightBelow(pane, hour);
             facts[5] = city.owner[pane];
             facts[6] = city.loadOn(pane, hour);
         }
@@ -963,35 +964,35 @@ public final class GlassCity {
             if (fines[line] == NONE) {
                 return false;
             }
-            if (tape.takeWord("if") && !readAny(tape, 0)) {
+            if (tape.takeWord("if") && !readCondition(tape, 0)) {
                 return false;
             }
             ends[line] = used;
             return true;
         }
 
-        private boolean readAny(Tape tape, int deep) {
-            if (!readAll(tape, deep)) {
-                return false;
-            }
-            for (int i = 0; i < MOST_BYTES && tape.takeWord("or"); i++) {
-                if (!readAll(tape, deep)) {
-                    return false;
-                }
-                keep(OR);
-            }
-            return true;
-        }
-
-        private boolean readAll(Tape tape, int deep) {
-            if (!readAtom(tape, deep)) {
-                return false;
-            }
-            for (int i = 0; i < MOST_BYTES && tape.takeWord("and"); i++) {
+        /** What stands between two ors is joined by its ands first. */
+        private boolean readCondition(Tape tape, int deep) {
+            boolean behindOr = false;
+            boolean behindAnd = false;
+            for (int i = 0; i < MOST_BYTES; i++) {
                 if (!readAtom(tape, deep)) {
                     return false;
                 }
-                keep(AND);
+                if (behindAnd) {
+                    keep(AND);
+                }
+                behindAnd = tape.takeWord("and");
+                if (behindAnd) {
+                    continue;
+                }
+                if (behindOr) {
+                    keep(OR);
+                }
+                behindOr = tape.takeWord("or");
+                if (!behindOr) {
+                    return true;
+                }
             }
             return true;
         }
@@ -1007,15 +1008,11 @@ public final class GlassCity {
                 if (deep >= MOST_DEEP) {
                     return tape.refuseTaken();
                 }
-                if (!readAny(tape, deep + 1)) {
+                if (!readCondition(tape, deep + 1)) {
                     return false;
                 }
                 return tape.takeSign(')') || tape.refuseNext();
             }
-            return readComparison(tape);
-        }
-
-        private boolean readComparison(Tape tape) {
             if (!readSum(tape)) {
                 return false;
             }
@@ -1029,47 +1026,40 @@ public final class GlassCity {
         }
 
         private boolean readSum(Tape tape) {
-            if (!readPart(tape)) {
-                return false;
-            }
-            for (int i = 0; i < MOST_BYTES && tape.takeSign('+'); i++) {
-                if (!readPart(tape)) {
+            for (int parts = 0; parts < MOST_BYTES; parts++) {
+                int code = NONE;
+                for (int fact = 0; fact < FACTS && code == NONE; fact++) {
+                    if (tape.takeWord(factName(fact))) {
+                        code = FACT + fact;
+                    }
+                }
+                if (code == NONE) {
+                    code = tape.takeNumber(0, 999);
+                }
+                if (code == NONE) {
                     return false;
                 }
-                keep(ADD);
+                keep(code);
+                if (parts > 0) {
+                    keep(ADD);
+                }
+                if (!tape.takeSign('+')) {
+                    return true;
+                }
             }
             return true;
         }
 
-        private boolean readPart(Tape tape) {
-            int fact = takeFact(tape);
-            if (fact != NONE) {
-                return keep(FACT + fact);
+        private static String factName(int fact) {
+            switch (fact) {
+                case 0: return "thick";
+                case 1: return "sand";
+                case 2: return "cracks";
+                case 3: return "hour";
+                case LIGHT: return "light";
+                case 5: return "owner";
+                default: return "load";
             }
-            int number = tape.takeNumber(0, 999);
-            return number != NONE && keep(number);
-        }
-
-        private static int takeFact(Tape tape) {
-            if (tape.takeWord("thick")) {
-                return 0;
-            }
-            if (tape.takeWord("sand")) {
-                return 1;
-            }
-            if (tape.takeWord("cracks")) {
-                return 2;
-            }
-            if (tape.takeWord("hour")) {
-                return 3;
-            }
-            if (tape.takeWord("light")) {
-                return 4;
-            }
-            if (tape.takeWord("owner")) {
-                return 5;
-            }
-            return tape.takeWord("load") ? 6 : NONE;
         }
 
         /** Always true: each code comes from a byte of its own, so the row has room for all. */

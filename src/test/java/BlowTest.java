@@ -109,6 +109,12 @@ public final class BlowTest {
         Kit.due("{0}", 15, () -> x.trace(1, 300, false));
         Kit.due("{0} first", 161, () -> x.trace(1, 300, true));
         Kit.due("{0} to 170", 10, () -> x.trace(1, 170, false));
+        Kit.due("{0} to 161", 1, () -> x.trace(1, 161, false));
+        Kit.due("{0} to 160", 0, () -> x.trace(1, 160, false));
+        Kit.due("{0} first to 161", 161, () -> x.trace(1, 161, true));
+        Kit.due("{0} first to 160", -1, () -> x.trace(1, 160, true));
+        Kit.due("none to 1", 3, () -> x.trace(0, 1, false));
+        Kit.due("{0, 1} to 176", 1, () -> x.trace(3, 176, false));
         Kit.due("{0, 1}", 10, () -> x.trace(3, 300, false));
         Kit.due("{0, 1} first", 176, () -> x.trace(3, 300, true));
         Kit.due("{1} first", 1091, () -> x.trace(2, 300, true));
@@ -127,6 +133,14 @@ public final class BlowTest {
         Kit.due("none first", 1, () -> x.trace(0, 300, true));
         Kit.due("bits of none count for nothing", 15, () -> x.trace(-8 + 1, 300, false));
         Kit.due("nothing changed", 0, () -> x.count(6) + x.count(8));
+        GlassCity frail = Kit.of("size 2 1;thick 0 0 1;cold 0 0 10");
+        Kit.due("what bears nothing", 1001, () -> frail.trace(0, 300, true));
+        Kit.due("what bears nothing", 1, () -> frail.trace(1, 300, true) % 1000);
+        x.runs(100);
+        for (int i = 0; i < 3; i++) {
+            x.blow(0, 999);
+        }
+        Kit.due("broken: all forces do nothing", 300 + 90 + 40, () -> x.trace(0, 300, false));
     }
 
     private static void traceAgainstWould() {

@@ -181,5 +181,11 @@ public final class LightTest {
         Kit.due("corners", -1, () -> y.lamps(1 + 4 + 64 + 256, 0));
         Kit.due("a cross by three", 1 + 4 + 16, () -> y.lamps(2 + 8 + 16 + 32, 0));
         Kit.due("too dark", -1, () -> y.lamps(511, 0));
+        GlassCity z = Kit.of("size 3 2;lamp 1 1 30");
+        Kit.due("the first three", 1 + 2 + 4, () -> z.lamps(1 + 4 + 16, 0));
+        GlassCity w = Kit.of("size 2 1;lamp 0 0 30;lamp 1 0 30");
+        Kit.due("one is enough for both", 1, () -> w.lamps(3, 0));
+        GlassCity v = Kit.of("size 2 1");
+        Kit.due("both", 3, () -> v.lamps(3, 0));
     }
 }

@@ -57,6 +57,14 @@ public final class TextTest {
         Kit.wrongCity("Size 3 3", 0);
         Kit.wrongCity("sizes 3 3", 0);
         Kit.wrongCity("siz 3 3", 0);
+        Kit.wrongCity("sizea 3 3", 0);
+        Kit.wrongCity("sizez 3 3", 0);
+        Kit.wrongCity("size{3 3", 4);
+        Kit.wrongCity("size`3 3", 4);
+        Kit.wrongCity("size/3 3", 4);
+        Kit.wrongCity("size:3 3", 4);
+        Kit.wrongCity("size 3:3", 6);
+        Kit.wrongCity("size 3/3", 6);
         Kit.wrongCity(" 3", 1);
         Kit.wrongCity(";", 0);
         Kit.wrongCity("size 3 3;", 9);
@@ -94,6 +102,24 @@ public final class TextTest {
         Kit.wrongCity("cart 1 0 0 1 to 2 fel", 18);
         Kit.wrongCity("cart 1 0 0 1 to 2 felt felt", 23);
         Kit.wrongCity("hide", 0);
+        everyEnd("size 3 3");
+        everyEnd("thick 2 2 9");
+        everyEnd("heat 2 2 60");
+        everyEnd("cold 2 2 40");
+        everyEnd("sand 2 2 100");
+        everyEnd("owner 2 2 7");
+        everyEnd("lamp 2 2 99");
+        everyEnd("cart 200 2 2 23 to 23");
+        Kit.of("heat 0 0 0;sand 0 0 0;owner 0 0 0;lamp 0 0 0;cold 0 0 0;thick 0 0 1;cart 1 0 0 0 to 0");
+    }
+
+    /** A line of which the last things are not there yet: more must come. */
+    private static void everyEnd(String line) {
+        for (int end = line.lastIndexOf(' '); end > 0; end = line.lastIndexOf(' ', end - 1)) {
+            Kit.wrongCity(line.substring(0, end), end);
+            Kit.wrongCity("size 3 3;" + line.substring(0, end + 1) + "  ", end + 12);
+            Kit.wrongCity(line.substring(0, end) + ";size 3 3", end);
+        }
     }
 
     private static void tooMuch() {
@@ -179,6 +205,11 @@ public final class TextTest {
     private static void wrongShames() {
         Kit.wrongShame("look", 0);
         Kit.wrongShame("hideif 1<2", 0);
+        Kit.wrongShame("hide if 1<2 anda 1<2", 12);
+        Kit.wrongShame("hide if 1<2 orz 1<2", 12);
+        Kit.wrongShame("hide if 1<2 or 1<2 and 1<2 or", 29);
+        Kit.wrongShame("hide if (1<2 or 1<2 and 1<2", 27);
+        Kit.wrongShame("hide if 1<2 and not", 19);
         Kit.wrongShame("hide if", 7);
         Kit.wrongShame("hide if ", 8);
         Kit.wrongShame("hide;", 5);

@@ -124,6 +124,15 @@ public final class WalkTest {
         }
         Kit.due("broken", -1, () -> y.heaviest(0, 1, 0));
         Kit.due("to broken", -1, () -> y.heaviest(1, 0, 0));
+        // all weights from 810 down: 810 less a load of up to four carts
+        for (int load = 0; load <= 810; load++) {
+            StringBuilder text = new StringBuilder("size 1 1;thick 0 0 9");
+            for (int left = load; left > 0; left -= 200) {
+                text.append(";cart ").append(Math.min(left, 200)).append(" 0 0 5 to 5 felt");
+            }
+            GlassCity loaded = Kit.of(text.toString());
+            Kit.due("heaviest with a load of " + load, 810 - load, () -> loaded.heaviest(0, 0, 5));
+        }
         // round about it is longer, but bears more
         GlassCity z = Kit.of("size 3 2;thick 1 0 2");
         Kit.due("round about", 160, () -> z.heaviest(0, 2, 0));
