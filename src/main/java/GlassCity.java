@@ -906,6 +906,9 @@ public final class GlassCity {
                 }
                 return top + 1;
             }
+            if (top > stack.length) {
+                return top;
+            }
             if (code == NOT) {
                 if (top >= 1) {
                     stack[top - 1] = 1 - stack[top - 1];

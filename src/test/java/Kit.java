@@ -10,6 +10,8 @@ final class Kit {
 
     private static int wrong = 0;
     private static int checks = 0;
+    private static String sentence = null;
+    private static int checksAhead = 0;
 
     private Kit() {
     }
@@ -27,8 +29,25 @@ final class Kit {
         checks++;
         String got = answer(call);
         if (!got.equals(String.valueOf(want))) {
-            wrong++;
-            System.out.println(what + " answered " + got + ", due is " + want);
+            tellWrong(what + " answered " + got + ", due is " + want);
+        }
+    }
+
+    private static void tellWrong(String what) {
+        wrong++;
+        System.out.println((sentence == null ? "" : "\"" + sentence + "\": ") + what);
+    }
+
+    /** A sentence of the document, word for word: the checks behind it, one at least, are its test. */
+    static void sentence(String words) {
+        closeSentence();
+        sentence = words;
+        checksAhead = checks;
+    }
+
+    private static void closeSentence() {
+        if (sentence != null && checks == checksAhead) {
+            tellWrong("has no check");
         }
     }
 
@@ -86,7 +105,63 @@ final class Kit {
         due("fault of " + text, fault, x::fault);
     }
 
+    /** Blows that run to no other pane, if no heats beside one another are off by 100; RUN is 100 then. */
+    static void crack(GlassCity x, int pane, int times) {
+        x.runs(100);
+        for (int i = 0; i < times; i++) {
+            x.blow(pane, 999);
+        }
+    }
+
+    static int bits(int... panes) {
+        int set = 0;
+        for (int pane : panes) {
+            set |= 1 << pane;
+        }
+        return set;
+    }
+
+    /** All that can be seen of a city without a change that stays, but for THE IMAGE. */
+    static String state(GlassCity x) {
+        StringBuilder all = new StringBuilder();
+        for (int what = 0; what < 10; what++) {
+            all.append(x.count(what)).append(' ');
+        }
+        int panes = x.count(0) * x.count(1);
+        for (int pane = 0; pane < panes; pane++) {
+            for (int what = 0; what < 7; what++) {
+                all.append(x.pane(pane, what)).append(' ');
+            }
+            all.append(x.fined(pane, 0)).append(' ').append(x.seen(pane, 12)).append(' ');
+        }
+        for (int cart = 0; cart < x.count(2); cart++) {
+            for (int what = 0; what < 5; what++) {
+                all.append(x.cart(cart, what)).append(' ');
+            }
+        }
+        for (int seer = 0; seer < x.count(5); seer++) {
+            for (int pane = 0; pane < panes; pane++) {
+                int much = x.offer(seer, pane, 0);
+                x.offer(seer, pane, much);
+                all.append(much).append(' ');
+            }
+        }
+        int run = x.runs(0);
+        x.runs(run);
+        return all.append(run).toString();
+    }
+
+    /** How many bytes the tape has: the greatest number at which it can end. */
+    static int tapeLength(GlassCity x) {
+        int length = 400;
+        while (!x.end(length)) {
+            length--;
+        }
+        return length;
+    }
+
     static void finish(String name) {
+        closeSentence();
         System.out.println(name + ": " + checks + " checks, " + wrong + " wrong");
         if (wrong != 0 || checks == 0) {
             System.exit(1);
