@@ -146,6 +146,8 @@ public final class EdgesOfBlowsTest {
         GlassCity last = Kit.of("size 6 5");
         Kit.due("the last pane", 29161, () -> last.trace(1 << 29, 300, true));
         Kit.due("the last pane", 140, () -> last.trace(1 << 29, 300, false));
+        Kit.due("never in the greatest city", -1, () -> last.trace(3, 300, true));
+        Kit.due("never in the greatest city", 0, () -> last.trace(3, 300, false));
         last.runs(0);
         Kit.due("panes of a long way", 14261, () -> last.trace(Kit.bits(14, 8, 2, 3, 4, 5), 300, true));
     }
@@ -323,6 +325,13 @@ public final class EdgesOfBlowsTest {
         Kit.due("810 less 60", 4, () -> y.strengthen(0, 3, 0, 750));
         Kit.due("and 1", -1, () -> y.strengthen(0, 3, 0, 751));
         Kit.due("nothing stays", 1, () -> y.pane(2, 0));
+        Kit.due("nor is a parade stronger then", -1, () -> y.parade(0, 3, 0, 11, -1));
+        Kit.due("nor is one on what was strengthened", -1, () -> y.parade(2, 2, 0, 11, -1));
+        Kit.due("nor is the heaviest", -1, () -> y.heaviest(1, 3, 0));
+        Kit.due("with 161 by two", 3, () -> x.strengthen(0, 1, 0, 161));
+        Kit.due("161 is too much as it is", -1, () -> x.parade(0, 1, 0, 161, -1));
+        Kit.due("161 is too much where it is", -1, () -> x.parade(0, 0, 0, 161, -1));
+        Kit.due("160 is the most as it is", 160, () -> x.heaviest(0, 5, 0));
         // by {17, 23}, {22, 23}, {22, 28} or {27, 28}
         GlassCity z = Kit.of("size 6 5;thick 4 4 1;thick 5 3 1;thick 3 4 1;thick 4 3 1;thick 5 2 1");
         Kit.due("of four pairs the least", Kit.bits(17, 23), () -> z.strengthen(0, 29, 0, 11));

@@ -319,6 +319,25 @@ public final class EdgesOfNightsTest {
         GlassCity two = Kit.of("size 6 1;lamp 0 0 30;lamp 2 0 30;lamp 5 0 30");
         Kit.due("one beside two, one beside the other", Kit.bits(1, 4), () -> two.lamps(Kit.bits(0, 2, 5), 0));
         Kit.due("nothing stays", 30, () -> two.light(0, 0, 2));
+        lampsAtTheBorder();
+        lampsOnce();
+    }
+
+    /** Panes of the last row: there are none below them, nor behind the last. */
+    private static void lampsAtTheBorder() {
+        GlassCity x = Kit.of("size 6 5;lamp 0 0 30;lamp 5 0 30;lamp 0 4 30;lamp 1 4 30;lamp 3 4 30;lamp 5 4 30");
+        Kit.due("the two ends of the last row", Kit.bits(18, 23), () -> x.lamps(Kit.bits(24, 29), 0));
+        Kit.due("three of the last row", Kit.bits(23, 26), () -> x.lamps(Kit.bits(25, 27, 29), 0));
+        Kit.due("the four corners", -1, () -> x.lamps(Kit.bits(0, 5, 24, 29), 0));
+        Kit.due("two corners and three of the last row", -1, () -> x.lamps(Kit.bits(0, 5, 25, 27, 29), 0));
+    }
+
+    /** No pane has two new lamps: what is dark beside a lamp wants another one. */
+    private static void lampsOnce() {
+        GlassCity dark = Kit.of("size 6 1");
+        Kit.due("not twice below 1", Kit.bits(0, 2, 5), () -> dark.lamps(Kit.bits(0, 1, 2, 5), 0));
+        GlassCity x = Kit.of("size 6 1;lamp 0 0 30;lamp 1 0 30;lamp 2 0 30");
+        Kit.due("not twice below 4", Kit.bits(0, 3, 5), () -> x.lamps(63, 0));
     }
 
     private static void undone() {
@@ -405,6 +424,7 @@ public final class EdgesOfNightsTest {
         Kit.due("back from a small city", true, x::back);
         Kit.same("as at first, again", first, Kit.state(x));
         Kit.due("ways by the edges of then", true, () -> x.may(Kit.bits(1, 2, 4, 5)));
+        backByOneText();
         changeAll(x, "size 5 2");
         String second = Kit.state(x);
         x.image();
@@ -416,6 +436,26 @@ public final class EdgesOfNightsTest {
         Kit.due("fault() stays", 1, x::fault);
         Kit.same("the tape stays", 20, Kit.tapeLength(x));
         Kit.due("the image stays", true, x::back);
+    }
+
+    /** As often as not the city that goes back has been another size itself: sets and edges come from the image. */
+    private static void backByOneText() {
+        for (int texts = 1; texts <= 4; texts++) {
+            GlassCity x = Kit.of("size 3 4");
+            x.image();
+            for (int n = 0; n < texts; n++) {
+                Kit.city(x, n == 0 ? "size 6 5" : "");
+                Kit.due("the last pane of the great city", 29161, () -> x.trace(1 << 29, 300, true));
+                Kit.due("rows of the great city", false, () -> x.may(Kit.bits(6, 7, 8, 9, 10, 11)));
+                Kit.due("columns of the great city", true, () -> x.may(Kit.bits(1, 7, 13, 19, 4, 16, 22, 28)));
+            }
+            Kit.due("back", true, x::back);
+            Kit.due("bits of none count for nothing", 12 * 160, () -> x.trace(1 << 29 | 1 << 12, 300, false));
+            Kit.due("by the left", true, () -> x.may(Kit.bits(1, 2, 4, 5, 7, 8)));
+            Kit.due("by the right", true, () -> x.may(Kit.bits(3, 4, 6, 7)));
+            Kit.due("no way from the end of a row to the next", false, () -> x.may(Kit.bits(3, 4, 7, 8)));
+            Kit.due("nor from the begin of a row to the one before", false, () -> x.may(Kit.bits(1, 4, 6)));
+        }
     }
 
     /** Every part of the state becomes another one; no act can be undone then. */

@@ -351,6 +351,11 @@ public final class EdgesOfTextsTest {
             boolean due = way.replace("(", "").length() / 4 % 2 == 0;
             told(x, closed(way), due);
         }
+        // an or and an and stand open at each depth, and sums at the deepest one
+        String open = "2<1 or 1<2 and (".repeat(6) + "2<1 or 1<2 and ";
+        told(x, open + "1+2+3 < 2+2+3" + ")".repeat(6), true);
+        told(x, open + "1+2+3 < 2+2+2" + ")".repeat(6), false);
+        told(x, open + "1+2+3 > 2+2+2" + ")".repeat(6) + " or 1<2", true);
     }
 
     private static void wrongNumbers() {
@@ -465,6 +470,11 @@ public final class EdgesOfTextsTest {
         for (String law : new String[] {"hide;", "hide;hide;hide;fine", "fine 9 if 1<2;show if (1<2", "show if not"}) {
             Kit.same("wrong", Kit.ARGUMENT, Kit.shame(x, law));
             Kit.same("nothing of " + law, before, Kit.state(x));
+        }
+        for (String law : new String[] {"fine", "fine 1000", "hide;fine", "hide;hide;fine 5 if"}) {
+            Kit.same("wrong", Kit.ARGUMENT, Kit.shame(x, law));
+            Kit.same("a right one behind it", "3", Kit.shame(x, "hide;show;hide if 1<2"));
+            Kit.due("no fault", -1, x::fault);
         }
         GlassCity y = new GlassCity();
         Kit.same("wrong", Kit.ARGUMENT, Kit.shame(y, "hide;hide if"));

@@ -42,6 +42,7 @@ public final class LanguageTest {
         Kit.same("at most twelve classes", true, GlassCity.class.getDeclaredClasses().length <= 12);
         List<String> lines = Files.readAllLines(Path.of("src/main/java/GlassCity.java"));
         words(lines);
+        objects(lines);
         methods(lines);
         Kit.finish("LanguageTest");
     }
@@ -92,6 +93,17 @@ public final class LanguageTest {
             String line = lines.get(i);
             for (String word : never) {
                 Kit.same("line " + (i + 1) + " without " + word + ": " + line, false, Pattern.compile(word).matcher(line).find());
+            }
+        }
+    }
+
+    /** All calls of a run live in one room: but for exceptions, nothing is made outside the fields of an object. */
+    private static void objects(List<String> lines) {
+        Pattern field = Pattern.compile("^ {4}( {4})?private (final )?[\\w\\[\\]]+ \\w+ = new .*;$|^ {8}final [\\w\\[\\]]+ \\w+ = new .*;$");
+        for (int i = 0; i < lines.size(); i++) {
+            String line = lines.get(i);
+            if (line.contains(" new ") && !line.contains("throw new ")) {
+                Kit.same("line " + (i + 1) + " makes a field: " + line, true, field.matcher(line).matches());
             }
         }
     }
